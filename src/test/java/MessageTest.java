@@ -13,6 +13,7 @@ public final class MessageTest {
 
     public static void main(String[] args) {
         nodesAreNumbered();
+        liarsAreRoundedDown();
         wellBehavedUntilCorrupted();
         slotsAndValues();
         logInOrderToAll();
@@ -40,6 +41,21 @@ public final class MessageTest {
             same("sent of node 0", x.sent(0), 0);
             same("sent of the last node of " + n, x.sent(n - 1), 0);
             same("sent of the node after the last of " + n, x.sent(n), NONE);
+        }
+    }
+
+    /** F + 1 READYs call for another: so many as come before it are F. */
+    private static void liarsAreRoundedDown() {
+        CHECKS.sentence("F is (n - 1) / 3, rounded down");
+        int[] due = {1, 1, 1, 2};
+        for (int n = 4; n <= 7; n++) {
+            Siege siege = new Siege(n);
+            int before = 0;
+            for (int liar = 1; liar < n; liar++) {
+                siege.rounds.forge(liar, 0, 0, 1, READY);
+                before += siege.rounds.sent(0) == 0 ? 1 : 0;
+            }
+            same("F for " + n, before, due[n - 4]);
         }
     }
 

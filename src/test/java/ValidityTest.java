@@ -6,6 +6,7 @@ public final class ValidityTest {
     public static void main(String[] args) {
         emptyAtFirst();
         toTheEndOfTheRow();
+        stepOfSlot();
         slotZero();
         stepOne();
         justAsManyForZeroAlone();
@@ -48,6 +49,23 @@ public final class ValidityTest {
                     same("place " + k + " of slot " + slot, siege.rounds.rowAt(0, slot, k), speaker);
                 }
                 same("the row is full", siege.rounds.rowAt(0, slot, n), NONE);
+            }
+        }
+    }
+
+    private static void stepOfSlot() {
+        CHECKS.sentence("There are three ROUNDS of three steps: the STEP of slot s is s % 3");
+        for (int n = 4; n <= 7; n++) {
+            for (int slot = 0; slot <= 8; slot++) {
+                for (int x = 0; x <= 3; x++) {
+                    boolean ofStepTwo = slot == 2 || slot == 5 || slot == 8;
+                    Siege siege = new Siege(n);
+                    // Where firm values follow, it is 3, and 1 for those who said 1 before, as speaker 0.
+                    siege = ofStepTwo ? siege.leadToFirm(slot, 1) : siege.leadTo(slot);
+                    siege.accept(slot, 0, x);
+                    boolean due = ofStepTwo ? x == 1 || x == 3 : x <= 1;
+                    same(x + " in slot " + slot + " of " + n, bit(siege.inRow(slot, 0)), bit(due));
+                }
             }
         }
     }
