@@ -41,8 +41,36 @@ public final class FaceTest {
         for (Class<?> inner : face.getDeclaredClasses()) {
             checks.yes(inner + " is static", Modifier.isStatic(inner.getModifiers()));
             checks.no(inner + " is public", Modifier.isPublic(inner.getModifiers()));
+            keepsToLimits(checks, inner);
         }
+        keepsToLimits(checks, face);
+        checks.yes("at most twelve classes", face.getDeclaredClasses().length < 12);
         checks.end();
+    }
+
+    /** What LANGUAGE.md asks of every class and can be seen here. */
+    private static void keepsToLimits(Checks checks, Class<?> one) {
+        int fields = 0;
+        for (Field field : one.getDeclaredFields()) {
+            boolean isStatic = Modifier.isStatic(field.getModifiers());
+            checks.yes(field + ": static state is final", !isStatic || Modifier.isFinal(field.getModifiers()));
+            fields += isStatic ? 0 : 1;
+        }
+        checks.yes(one + ": at most twenty fields", fields <= 20);
+        for (Method method : one.getDeclaredMethods()) {
+            checks.yes(method + ": at most seven parameters", method.getParameterCount() <= 7);
+            boolean hidden = Modifier.isPrivate(method.getModifiers());
+            checks.no(method + ": private with a public name", hidden && isNameOfFace(method.getName()));
+        }
+    }
+
+    private static boolean isNameOfFace(String name) {
+        for (String method : FACE) {
+            if (method.contains(" " + name + "(")) {
+                return true;
+            }
+        }
+        return false;
     }
 
     private static String textOf(Method method) {
